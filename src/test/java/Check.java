@@ -10,6 +10,7 @@ final class Check {
 
     private static int wrong = 0;
     private static int looked = 0;
+    private static String sentence = "";
 
     private Check() {
     }
@@ -17,6 +18,11 @@ final class Check {
     /** A call that may throw; a boolean answer is given as 1 or 0. */
     interface Call {
         long answer();
+    }
+
+    /** The document's sentence that the answers from here on belong to; a wrong one is told with it. */
+    static void sentence(String where, String words) {
+        sentence = where + " \"" + words + "\": ";
     }
 
     static long bit(boolean b) {
@@ -36,7 +42,7 @@ final class Check {
         looked++;
         if (!got.equals(want)) {
             wrong++;
-            System.out.println(what + ": answered " + got + ", due is " + want);
+            System.out.println(sentence + what + ": answered " + got + ", due is " + want);
         }
     }
 

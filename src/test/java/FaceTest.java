@@ -7,24 +7,26 @@ import java.util.TreeSet;
 
 /** The public face is the document's, and nothing beside it can be seen from outside (LANGUAGE.md, rule 1). */
 public final class FaceTest {
+    /** Each method, and behind it what it says that it throws. */
     private static final String[] FACE = {
-        "boolean row(int,int,int)",
-        "boolean lid(int)",
-        "boolean clear(int)",
-        "int share(int,int)",
-        "long put(int,int,long)",
-        "int lay(int,int,int)",
-        "int lift(int,int)",
-        "int move(int,int,int,int,int)",
-        "int pour(int,int)",
+        "boolean row(int,int,int) IndexOutOfBoundsException IllegalArgumentException UnsupportedOperationException",
+        "boolean lid(int) IndexOutOfBoundsException",
+        "boolean clear(int) IndexOutOfBoundsException",
+        "int share(int,int) IndexOutOfBoundsException",
+        "long put(int,int,long) IndexOutOfBoundsException IllegalStateException NoSuchElementException",
+        "int lay(int,int,int)"
+            + " IndexOutOfBoundsException IllegalArgumentException IllegalStateException NoSuchElementException UnsupportedOperationException",
+        "int lift(int,int) IndexOutOfBoundsException IllegalStateException NoSuchElementException",
+        "int move(int,int,int,int,int) IndexOutOfBoundsException",
+        "int pour(int,int) IndexOutOfBoundsException",
         "int moved()",
-        "long at(int,int)",
-        "int holds(int)",
-        "int places(int)",
-        "boolean same(int,int)",
-        "long all(int)",
-        "int feed(int,int)",
-        "int kind(int)",
+        "long at(int,int) IndexOutOfBoundsException IllegalStateException NoSuchElementException",
+        "int holds(int) IndexOutOfBoundsException",
+        "int places(int) IndexOutOfBoundsException IllegalStateException",
+        "boolean same(int,int) IndexOutOfBoundsException",
+        "long all(int) IndexOutOfBoundsException IllegalStateException",
+        "int feed(int,int) NoSuchElementException",
+        "int kind(int) NoSuchElementException",
         "int count(int)",
     };
 
@@ -65,7 +67,11 @@ public final class FaceTest {
             text.append(comma).append(type.getName());
             comma = ",";
         }
-        return text.append(')').toString();
+        text.append(')');
+        for (Class<?> type : method.getExceptionTypes()) {
+            text.append(' ').append(type.getSimpleName());
+        }
+        return text.toString();
     }
 
     private static void fields() throws Exception {

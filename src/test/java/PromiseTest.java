@@ -305,55 +305,40 @@ public final class PromiseTest {
         }
     }
 
-    private static void numbered(HiveYard x, int box, int sort, int n) {
-        x.row(box, sort, n);
-        for (int place = 0; place < n; place++) {
-            x.put(box, place, place + 1);
-        }
-    }
-
-    private static void stands(String what, HiveYard x, int box, long... want) {
-        Check.due(what + ": places", () -> x.places(box), want.length);
-        for (int p = 0; p < want.length; p++) {
-            int place = p;
-            Check.due(what + ": place " + p, () -> x.at(box, place), want[p]);
-        }
-    }
-
     private static void promise9MoveOfNumbers() {
         for (int sort = 0; sort < NUMBERS; sort++) {
             HiveYard x = new HiveYard();
-            numbered(x, 0, sort, 4);
+            Yards.numbered(x, 0, sort, 4);
             x.row(11, sort, 5);
             Check.due("9 some", () -> x.move(0, 1, 11, 2, 2), 0);
             Check.due("9 how many", () -> x.moved(), 2);
-            stands("9 to", x, 11, 0, 0, 2, 3, 0);
-            stands("9 from", x, 0, 1, 2, 3, 4);
+            Yards.stands("9 to", x, 11, 0, 0, 2, 3, 0);
+            Yards.stands("9 from", x, 0, 1, 2, 3, 4);
             Check.due("9 none", () -> x.move(0, 0, 11, 0, 0), 0);
             Check.due("9 how many of none", () -> x.moved(), 0);
-            stands("9 to, after none", x, 11, 0, 0, 2, 3, 0);
+            Yards.stands("9 to, after none", x, 11, 0, 0, 2, 3, 0);
             Check.due("9 to the ends", () -> x.move(11, 2, 0, 1, 3), 0);
-            stands("9 back", x, 0, 1, 2, 3, 0);
+            Yards.stands("9 back", x, 0, 1, 2, 3, 0);
         }
     }
 
     private static void promise9MoveWithinOneRow() {
         HiveYard x = new HiveYard();
-        numbered(x, 0, 1, 6);
+        Yards.numbered(x, 0, 1, 6);
         x.share(1, 0);
         Check.due("9 up", () -> x.move(0, 0, 0, 1, 5), 0);
-        stands("9 up", x, 0, 1, 1, 2, 3, 4, 5);
+        Yards.stands("9 up", x, 0, 1, 1, 2, 3, 4, 5);
         Check.due("9 down", () -> x.move(0, 2, 0, 0, 4), 0);
-        stands("9 down", x, 0, 2, 3, 4, 5, 4, 5);
+        Yards.stands("9 down", x, 0, 2, 3, 4, 5, 4, 5);
         Check.due("9 up, by a box that shares", () -> x.move(1, 0, 0, 2, 4), 0);
-        stands("9 up, by a box that shares", x, 0, 2, 3, 2, 3, 4, 5);
+        Yards.stands("9 up, by a box that shares", x, 0, 2, 3, 2, 3, 4, 5);
         Check.due("9 onto itself", () -> x.move(0, 0, 1, 0, 6), 0);
-        stands("9 onto itself", x, 1, 2, 3, 2, 3, 4, 5);
+        Yards.stands("9 onto itself", x, 1, 2, 3, 2, 3, 4, 5);
         x.row(2, 5, 3);
         x.lay(2, 0, 1);
         x.lay(2, 1, 3);
         Check.due("9 combs up", () -> x.move(2, 0, 2, 1, 2), 0);
-        stands("9 combs up", x, 2, 0, 0, 1);
+        Yards.stands("9 combs up", x, 2, 0, 0, 1);
     }
 
     private static void promise9MoveOfCombs() {
@@ -364,10 +349,10 @@ public final class PromiseTest {
         x.lay(0, 3, 2);
         x.lay(1, 0, 3);
         Check.due("9 up to any kind", () -> x.move(1, 0, 0, 1, 3), 0);
-        stands("9 places without a comb come too", x, 0, 0, 2, -1, -1);
-        stands("9 it stays where it was", x, 1, 2, -1, -1);
+        Yards.stands("9 places without a comb come too", x, 0, 0, 2, -1, -1);
+        Yards.stands("9 it stays where it was", x, 1, 2, -1, -1);
         Check.due("9 back", () -> x.move(0, 1, 1, 1, 2), 0);
-        stands("9 back", x, 1, 2, 2, -1);
+        Yards.stands("9 back", x, 1, 2, 2, -1);
         x.row(2, 5, 2);
         Check.due("9 sealed is honey", () -> x.move(1, 0, 2, 0, 2), 0);
         Check.due("9 honey that is sealed goes back", () -> x.move(2, 0, 1, 1, 2), 0);
@@ -389,17 +374,17 @@ public final class PromiseTest {
         x.lay(1, 5, 1);
         Check.due("9 brood into honey", () -> x.move(0, 0, 1, 1, 5), 5);
         Check.due("9 brood into honey, how far", () -> x.moved(), 3);
-        stands("9 brood into honey", x, 1, -1, 0, -1, 1, 5, 6);
-        stands("9 brood into honey, from", x, 0, 0, -1, 1, 2, 3);
+        Yards.stands("9 brood into honey", x, 1, -1, 0, -1, 1, 5, 6);
+        Yards.stands("9 brood into honey, from", x, 0, 0, -1, 1, 2, 3);
         x.row(2, 7, 5);
         Check.due("9 honey into sealed, the first", () -> x.move(0, 0, 2, 0, 5), 5);
         Check.due("9 the first, how far", () -> x.moved(), 0);
-        stands("9 nothing of it", x, 2, -1, -1, -1, -1, -1);
+        Yards.stands("9 nothing of it", x, 2, -1, -1, -1, -1, -1);
         x.row(3, 6, 5);
         Check.due("9 sealed into brood", () -> x.move(0, 1, 3, 0, 3), 5);
         Check.due("9 sealed into brood, how far", () -> x.moved(), 1);
         Check.due("9 honey into brood, the last", () -> x.move(0, 3, 3, 0, 2), 5);
-        stands("9 honey into brood", x, 3, 2, -1, -1, -1, -1);
+        Yards.stands("9 honey into brood", x, 3, 2, -1, -1, -1, -1);
         x.row(4, 4, 1);
         x.lay(4, 0, 0);
         for (int b = 1; b < 4; b++) {
@@ -443,7 +428,7 @@ public final class PromiseTest {
 
     private static void promise9MoveOutside() {
         HiveYard x = new HiveYard();
-        numbered(x, 0, 0, 3);
+        Yards.numbered(x, 0, 0, 3);
         x.row(1, 0, 5);
         int[][] outside = {
             {-1, 0, 1}, {0, -1, 1}, {0, 0, -1}, {0, 0, 4}, {2, 0, 2}, {0, 3, 3}, {4, 0, 0}, {0, 6, 0}, {4, 0, -1},
@@ -456,10 +441,10 @@ public final class PromiseTest {
             Check.due("9 outside " + o[0] + " " + o[1] + " " + o[2], () -> x.move(0, o[0], 1, o[1], o[2]), 4);
             Check.due("9 outside moves none", () -> x.moved(), 0);
         }
-        stands("9 outside", x, 1, 0, 0, 0, 0, 0);
+        Yards.stands("9 outside", x, 1, 0, 0, 0, 0, 0);
         Check.due("9 at both ends", () -> x.move(0, 3, 1, 5, 0), 0);
         Check.due("9 all of it", () -> x.move(0, 0, 1, 2, 3), 0);
-        stands("9 all of it", x, 1, 0, 0, 1, 2, 3);
+        Yards.stands("9 all of it", x, 1, 0, 0, 1, 2, 3);
         x.row(2, 4, 2);
         x.row(3, 7, 2);
         x.lay(2, 0, 0);
@@ -468,15 +453,15 @@ public final class PromiseTest {
 
     private static void promise10Pour() {
         HiveYard x = new HiveYard();
-        numbered(x, 0, 0, 4);
+        Yards.numbered(x, 0, 0, 4);
         x.row(1, 0, 6);
         x.row(11, 0, 2);
         Check.due("10 into a longer row", () -> x.pour(0, 1), 0);
         Check.due("10 into a longer row, how far", () -> x.moved(), 4);
-        stands("10 into a longer row", x, 1, 1, 2, 3, 4, 0, 0);
+        Yards.stands("10 into a longer row", x, 1, 1, 2, 3, 4, 0, 0);
         Check.due("10 into a shorter row", () -> x.pour(0, 11), 0);
         Check.due("10 into a shorter row, how far", () -> x.moved(), 2);
-        stands("10 into a shorter row", x, 11, 1, 2);
+        Yards.stands("10 into a shorter row", x, 11, 1, 2);
         Check.due("10 into itself", () -> x.pour(0, 0), 0);
         Check.due("10 into itself, how far", () -> x.moved(), 4);
         x.row(2, 0, 0);
@@ -496,7 +481,7 @@ public final class PromiseTest {
         Check.due("10 combs into numbers", () -> x.pour(5, 0), 3);
         Check.due("10 wrong", () -> x.pour(5, 6), 5);
         Check.due("10 wrong, how far", () -> x.moved(), 1);
-        stands("10 wrong", x, 6, 0, -1, -1, -1);
+        Yards.stands("10 wrong", x, 6, 0, -1, -1, -1);
         Check.due("10 moves", () -> x.count(2), 11);
         for (int b : NO_BOX) {
             Check.thrown("10 from", () -> x.pour(b, 0), Check.BOX);
